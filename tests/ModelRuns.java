@@ -12,7 +12,7 @@ public final class ModelRuns {
 
     public static void main(String[] args) {
         int from = args.length > 0 ? Integer.parseInt(args[0]) : 0;
-        int many = args.length > 1 ? Integer.parseInt(args[1]) : 60;
+        int many = args.length > 1 ? Integer.parseInt(args[1]) : 90;
         for (int seed = from; seed < from + many; seed++) {
             new ModelRuns(seed).run(seed % 6);
         }
@@ -145,7 +145,8 @@ public final class ModelRuns {
             case 29 -> pair.call("best", about(1, 10000), reg());
             case 30 -> pair.call("mapped", about(1, 1000), reg());
             case 31 -> pair.call("commas", about(0, 20), about(0, 10), reg(), coin() ? 0 : about(0, 100));
-            case 32, 33, 34 -> pair.call("chord", about(1, 255), reg());
+            case 32, 33 -> pair.call("chord", about(1, 255), reg());
+            case 34 -> smallChord();
             case 35, 36 -> pair.call("beats", reg(), about(1, 10000), about(1, 100), about(1, 100));
             case 37, 38, 39 -> pair.call("string", reg(), about(1, 1000000));
             case 40 -> pair.call("rhythm", about(1, 30), about(0, 30));
@@ -156,6 +157,29 @@ public final class ModelRuns {
             case 45 -> pair.call("moves");
             default -> randomInterval(in(0, 7), 0);
         }
+    }
+
+    private void smallChord() {
+        int chord = in(1, 255);
+        for (int r = 0; r < 8; r++) {
+            if ((chord >> r & 1) == 1) {
+                pair.call("fraction", r, smooth(chance.nextInt(4) == 0 ? 1000000 : 12), smooth(12));
+            }
+        }
+        for (int r = 0; r < 8; r++) {
+            pair.call("chord", chord, r);
+        }
+    }
+
+    private void longTune() {
+        pair.call("fraction", 0, 3, 2);
+        pair.call("fraction", 1, 5, 4);
+        for (int i = 0; i < 62; i++) {
+            pair.call("move", in(0, 1), coin());
+        }
+        pair.call("drift", 60, in(2, 7));
+        pair.call("drift", in(0, 60), in(2, 7));
+        pair.call("undo");
     }
 
     private void scaleCall() {
@@ -213,6 +237,12 @@ public final class ModelRuns {
             case 2 -> pair.call("type", coin() ? 0L : chance.nextLong() >>> in(0, 60) & 0x3f3f3f3f3f3f3f3fL);
             case 3 -> pair.call("undo");
             case 4 -> pair.call("clearText");
+            case 5 -> {
+                for (int i = in(1, 17); i > 0; i--) {
+                    pair.call("type", 0x2072302b2b207230L);
+                }
+                pair.call("errorPlace");
+            }
             default -> {
                 pair.text(randomText());
                 pair.call("errorPlace");
@@ -248,7 +278,8 @@ public final class ModelRuns {
     }
 
     private void temperCall() {
-        switch (chance.nextInt(16)) {
+        switch (chance.nextInt(80) == 0 ? 16 : chance.nextInt(16)) {
+            case 16 -> longTune();
             case 0, 1, 2 -> pair.call("temper", about(0, 11), coin() ? about(-24, 24) : in(-2, 6));
             case 3 -> pair.call("closes");
             case 4 -> pair.call("impurity", about(0, 11), about(0, 6));
