@@ -380,6 +380,8 @@ public final class ChangesTest {
         x.times(1, 50, 1);
         Check.state(x, "the 41st, and not to be kept", () -> x.tone(0, 1, true));
         Check.due("one of the 40", x.tone(0, 0, true), true);
+        x.key(0, 0, 2);
+        Check.due("the lowest of the 40", x.tone(0, 2, true), true);
         Check.due("out", x.tone(0, 0, false), true);
         Check.due("the 40th", x.tone(0, 7, true), false);
         Check.due("40", x.tones(0), 40);

@@ -199,6 +199,12 @@ public final class QuestionsTest {
             x.tell(3);
             Check.due("digits of 10 to the power of " + k, x.toldAt(0, 0), k + 1);
         }
+        x.fraction(3, 99, 98);
+        x.tell(3);
+        Check.due("digits of 99 and 98", x.toldAt(0, 0) + " " + x.toldAt(1, 0), "2 2");
+        x.fraction(3, 9, 8);
+        x.tell(3);
+        Check.due("digits of 9 and 8", x.toldAt(0, 0) + " " + x.toldAt(1, 0), "1 1");
         x.fraction(3, 1000000, 1);
         x.tell(3);
         Check.due("left of 1000000", x.toldAt(0, 2), 1000000);
@@ -423,8 +429,10 @@ public final class QuestionsTest {
         Check.due("term 2 to 15 are told all the same", x.term(1, 2) > 0 && x.term(1, 15) > 0, true);
         x.times(0, 1, 13);
         Check.due("term 1 of a 13th", x.term(0, 1), 950571776566487996L);
-        x.times(0, 13, 14);
-        Check.arithmetic(x, "term 1 of a 14th", () -> x.term(0, 1));
+        for (int k = 14; k <= 24; k++) {
+            x.times(0, k - 1, k);
+            Check.arithmetic(x, "term 1 of part " + k, () -> x.term(0, 1));
+        }
     }
 
     private static void best() {
@@ -487,6 +495,7 @@ public final class QuestionsTest {
         Check.due("81 / 80 below 26 / 25", x.commas(4, 1, 3, 0), 1);
         Check.due("the comma vanishes in 12, 19, 31", x.commas(4, 1, 0, 12) + " " + x.commas(4, 1, 0, 19) + " " + x.commas(4, 1, 0, 31), "1 1 1");
         Check.due("not in 53", x.commas(4, 1, 0, 53), 0);
+        Check.due("vanish in 1: 4 / 3, 5 / 4, 5 / 3, 16 / 15", x.commas(1, 1, 0, 1), 4);
         Check.due("below the unison", x.commas(20, 10, 7, 0), 0);
         x.fraction(4, 1, 2);
         Check.due("below 1 / 2", x.commas(20, 10, 4, 0), 0);
@@ -779,7 +788,7 @@ public final class QuestionsTest {
         }
         Object[][] wrong = {
             {"", 0}, {"   ", 3}, {"-", 1}, {"+fifth", 0}, {"--fifth", 1}, {"fifth +", 7}, {"fifth + ", 8}, {"fifth + - fifth", 8}, {"fifth fifth", 6},
-            {"fifths", 0}, {"fif th", 0}, {"Fifth", 0}, {"r", 0}, {"r8", 0}, {"r 1", 0}, {"2 r", 2}, {"rr1", 0}, {"r12", 2}, {"r1r2", 2}, {"fifthr1", 0}, {"r1fifth", 2},
+            {"fifths", 0}, {"fifthz", 0}, {"fiftha", 0}, {"fifth`", 5}, {"fifth{", 5}, {"fif th", 0}, {"Fifth", 0}, {"r", 0}, {"r8", 0}, {"r 1", 0}, {"2 r", 2}, {"rr1", 0}, {"r12", 2}, {"r1r2", 2}, {"fifthr1", 0}, {"r1fifth", 2},
             {"101 fifth", 0}, {"101", 0}, {"100", 3}, {"3 2", 2}, {"3 2 fifth", 2}, {"3 2 :", 5}, {"3 :", 3}, {"3 : ", 4}, {"3:0", 2}, {"0:3", 0}, {"3:2:1", 3},
             {"1234567:2", 0}, {"2:1234567", 2}, {"0000001 fifth", 0}, {"fifth/", 6}, {"fifth/0", 6}, {"fifth / 25", 8}, {"fifth/2/2", 7}, {"fifth/0000002", 6},
             {"fifth/fifth", 6}, {"fifth/-2", 6}, {"fifth 2", 6}, {"3:fifth", 2}, {":2", 0}, {"/2", 0}, {"2/3", 1}, {"fifth\t", 5}, {"fifth*2", 5}, {"\u00ff", 0}, {"3:2 5", 4},

@@ -1291,7 +1291,7 @@ public final class Tuninghouse {
 
         void become(long value) {
             length = 0;
-            for (long rest = value; rest > 0; rest >>= LIMB_BITS) {
+            for (long rest = value; rest > 0 && length < LIMBS; rest >>= LIMB_BITS) {
                 limb[length] = (int) (rest & LIMB);
                 length++;
             }
