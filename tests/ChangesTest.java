@@ -1,9 +1,12 @@
 /** Promises 1 to 20: a new object, and all changes. */
-public final class ChangesTest {
+final class ChangesTest {
     private static final int LOW = Integer.MIN_VALUE;
     private static final int HIGH = Integer.MAX_VALUE;
 
-    public static void main(String[] args) {
+    private ChangesTest() {
+    }
+
+    static void all() {
         newObject();
         fraction();
         parts();
@@ -26,7 +29,6 @@ public final class ChangesTest {
         endTune();
         undo();
         undoOfEach();
-        Check.end(1, 20);
     }
 
     private static Tuninghouse fifthIn0() {
@@ -45,7 +47,7 @@ public final class ChangesTest {
     }
 
     private static void newObject() {
-        Check.begin(1);
+        Doc.quote(1, "Creates a house with unisons in all registers and scales, without names, with twelve pure fifths, an empty tune and an empty text.");
         Tuninghouse x = new Tuninghouse();
         for (int r = 0; r < 8; r++) {
             Check.due("register " + r, Check.interval(x, r), "0 0 0 0 0 0/1");
@@ -70,7 +72,7 @@ public final class ChangesTest {
     }
 
     private static void fraction() {
-        Check.begin(2);
+        Doc.quote(2, "Puts a fraction into a register.", "Returns whether it is above the unison.");
         Tuninghouse x = new Tuninghouse();
         Check.due("3 / 2", x.fraction(0, 3, 2), true);
         Check.due("3 / 2", Check.interval(x, 0), "-1 1 0 0 0 0/1");
@@ -82,6 +84,7 @@ public final class ChangesTest {
         Check.due("1000000 / 1", Check.interval(x, 7), "6 0 6 0 0 0/1");
         Check.due("1001 / 1000000", x.fraction(3, 1001, 1000000), false);
         Check.due("1001 / 1000000", Check.interval(x, 3), "-6 0 -6 1 1 1/1");
+        Doc.quote(2, "Throws `ArithmeticException` if the fraction, without common divisors, has another prime than 2 to 13");
         Check.due("34 / 17", x.fraction(4, 34, 17), true);
         Check.due("34 / 17", Check.interval(x, 4), "1 0 0 0 0 0/1");
         Check.arithmetic(x, "17 / 2", () -> x.fraction(0, 17, 2));
@@ -99,7 +102,7 @@ public final class ChangesTest {
     }
 
     private static void parts() {
-        Check.begin(3);
+        Doc.quote(3, "Puts some of the equal parts of an octave into a register.", "Returns the root of the interval.");
         Tuninghouse x = new Tuninghouse();
         Check.due("7 of 12", x.parts(0, 7, 12), 12);
         Check.due("7 of 12", Check.interval(x, 0), "7 0 0 0 0 0/12");
@@ -121,7 +124,7 @@ public final class ChangesTest {
     }
 
     private static void sum() {
-        Check.begin(4);
+        Doc.quote(4, "Puts the sum or the difference of two registers into a register.", "- `isLess`: whether the second one is taken away", "Returns the root of the interval.");
         Tuninghouse x = fifthIn0();
         x.fraction(1, 5, 4);
         Check.due("3 / 2 and 5 / 4", x.sum(2, 0, 1, false), 1);
@@ -139,6 +142,7 @@ public final class ChangesTest {
         Check.arithmetic(x, "root 2520", () -> x.sum(5, 3, 4, false));
         x.parts(4, 1, 72);
         Check.due("root 60 of 360 and 72", x.sum(5, 3, 4, false), 60);
+        Doc.quote(4, "Throws `ArithmeticException` see section 1");
         octaves(x, 5, 5000);
         x.fraction(6, 2, 1);
         Check.arithmetic(x, "5001 octaves", () -> x.sum(0, 5, 6, false));
@@ -150,7 +154,7 @@ public final class ChangesTest {
     }
 
     private static void times() {
-        Check.begin(5);
+        Doc.quote(5, "Makes the interval of a register so many times itself, divided into parts.", "Returns the root of the interval.");
         Tuninghouse x = fifthIn0();
         Check.due("4 times", x.times(0, 4, 1), 1);
         Check.due("81 / 16", Check.interval(x, 0), "-4 4 0 0 0 0/1");
@@ -160,6 +164,7 @@ public final class ChangesTest {
         Check.due("-3 times", Check.interval(x, 0), "1 -1 0 0 0 0/4");
         Check.due("0 times", x.times(0, 0, 7), 1);
         Check.due("0 times", Check.interval(x, 0), "0 0 0 0 0 0/1");
+        Doc.quote(5, "Throws `ArithmeticException` see section 1");
         x.fraction(0, 3, 1);
         x.times(0, 50, 1);
         Check.due("100 times", x.times(0, -100, 1), 1);
@@ -179,7 +184,7 @@ public final class ChangesTest {
     }
 
     private static void octavesOff() {
-        Check.begin(6);
+        Doc.quote(6, "Takes octaves off the interval of a register.", "Returns how many octaves were taken away (below 0: so many were added).");
         Tuninghouse x = fifthIn0();
         Check.due("a fifth", x.octavesOff(0), 0);
         x.fraction(0, 81, 16);
@@ -196,16 +201,25 @@ public final class ChangesTest {
         Check.due("11 of 12", Check.interval(x, 0), "11 0 0 0 0 0/12");
         octaves(x, 0, -5000);
         Check.due("-5000 octaves", x.octavesOff(0), -5000);
-        x.fraction(0, 3, 1);
-        x.times(0, 100, 1);
-        x.times(0, 50, 1);
-        Check.arithmetic(x, "3 to the power of 5000", () -> x.octavesOff(0));
+        Doc.quote(6, "Throws `ArithmeticException` see section 1");
+        Make.put(x, 0, 0, 3155);
+        Check.due("5000 octaves", x.octavesOff(0) + " " + x.exponent(0, 0), "5000 -5000");
+        Make.put(x, 0, 0, 0, -2153);
+        Check.due("-5000 octaves", x.octavesOff(0) + " " + x.exponent(0, 0), "-5000 5000");
+        Make.put(x, 0, 0, 0, 2154);
+        Check.arithmetic(x, "5001 octaves", () -> x.octavesOff(0));
+        Make.put(x, 0, 0, -3155);
+        Check.arithmetic(x, "-5001 octaves", () -> x.octavesOff(0));
+        Make.putRoot(x, 0, 2, 0, 3155);
+        Check.due("2500 octaves, over 2", x.octavesOff(0) + " " + x.exponent(0, 0), "2500 -5000");
+        Make.putRoot(x, 0, 2, 0, 3157);
+        Check.arithmetic(x, "2501 octaves, over 2", () -> x.octavesOff(0));
         Check.index(x, "register", () -> x.octavesOff(8));
         Check.index(x, "register", () -> x.octavesOff(-1));
     }
 
     private static void miss() {
-        Check.begin(7);
+        Doc.quote(7, "Puts the miss of some steps of a register into a register.", "Returns how many octaves were taken away.");
         Tuninghouse x = fifthIn0();
         Check.due("12 fifths", x.miss(0, 12, 1), 7);
         Check.due("the comma", Check.interval(x, 1), "-19 12 0 0 0 0/1");
@@ -219,6 +233,14 @@ public final class ChangesTest {
         Check.due("half down", Check.interval(x, 4), "-1 0 0 0 0 0/2");
         Check.due("400 into itself", x.miss(0, 400, 0), 234);
         Check.due("400 fifths", Check.interval(x, 0), "-634 400 0 0 0 0/1");
+        Doc.quote(7, "Throws `ArithmeticException` see section 1");
+        Make.put(x, 1, 0, 0, 0, 1781);
+        Check.due("5000 octaves", x.miss(1, 1, 2) + " " + x.exponent(2, 0), "5000 -5000");
+        Make.put(x, 1, 0, 3155);
+        Check.arithmetic(x, "5001 octaves", () -> x.miss(1, 1, 2));
+        Make.put(x, 1, 0, 50, -34);
+        Check.due("100 times 50 of 3", x.miss(1, 100, 2) + " " + x.exponent(2, 1), "30 5000");
+        Check.arithmetic(x, "101 times 50 of 3", () -> x.miss(1, 101, 2));
         Check.arithmetic(x, "160000 of 3", () -> x.miss(0, 13, 1));
         for (int bad : new int[] {0, -1, 401, LOW, HIGH}) {
             Check.argument(x, "many " + bad, () -> x.miss(0, bad, 1));
@@ -228,7 +250,7 @@ public final class ChangesTest {
     }
 
     private static void deviation() {
-        Check.begin(8);
+        Doc.quote(8, "Puts how far n equal parts miss an interval into a register: its best number of parts, less the interval.", "Returns the best number.");
         Tuninghouse x = fifthIn0();
         Check.due("12 parts", x.deviation(12, 0, 1), 7);
         Check.due("12 parts", Check.interval(x, 1), "19 -12 0 0 0 0/12");
@@ -240,6 +262,15 @@ public final class ChangesTest {
         Check.due("up", Check.interval(x, 3), "1 0 0 0 0 0/48");
         x.parts(2, -1, 48);
         Check.due("less half of 24", x.deviation(24, 2, 3), 0);
+        Doc.quote(8, "Throws `ArithmeticException` see section 1");
+        Make.put(x, 4, 0, 0, 0, 1781);
+        Check.due("5000 octaves", x.deviation(1, 4, 3) + " " + Check.interval(x, 3), "5000 5000 0 0 -1781 0 0/1");
+        Make.put(x, 4, 0, 3155);
+        Check.arithmetic(x, "5001 octaves", () -> x.deviation(1, 4, 3));
+        x.parts(2, 26, 51);
+        Check.due("root 357", x.deviation(7, 2, 3) + " " + x.root(3), "4 357");
+        x.parts(2, 27, 52);
+        Check.arithmetic(x, "root 364", () -> x.deviation(7, 2, 3));
         x.parts(2, 100, 359);
         Check.arithmetic(x, "root 2513", () -> x.deviation(7, 2, 3));
         x.fraction(4, 3, 1);
@@ -255,7 +286,7 @@ public final class ChangesTest {
     }
 
     private static void read() {
-        Check.begin(9);
+        Doc.quote(9, "Puts the value of the text into a register; the text stays.", "Returns the root of the interval.");
         Tuninghouse x = fifthIn0();
         String[][] due = {
             {"octave", "1 0 0 0 0 0/1"}, {"fifth", "-1 1 0 0 0 0/1"}, {"third", "-2 0 1 0 0 0/1"}, {"comma", "-4 4 -1 0 0 0/1"},
@@ -270,12 +301,31 @@ public final class ChangesTest {
             Check.due("the text stays", x.clearText(), d[0].length());
         }
         x.clearText();
+        Doc.quote(9, "Throws `IllegalArgumentException` if the text has an error");
         Check.argument(x, "no text", () -> x.read(0));
         Check.put(x, "17:2 +");
         Check.argument(x, "error ahead of the prime", () -> x.read(0));
         Check.index(x, "register first", () -> x.read(8));
+        Doc.quote(9, "Throws `ArithmeticException` if a fraction has another prime than 2 to 13, or see section 1 (of any interval on the way, from the left: k times the atom, its parts, the sum so far)");
         Check.put(x, "17:2");
         Check.arithmetic(x, "prime 17", () -> x.read(0));
+        Check.put(x, "0 2:19 / 24");
+        Check.arithmetic(x, "prime 19, 0 times", () -> x.read(0));
+        Check.put(x, "fifth - 999983:1");
+        Check.arithmetic(x, "a prime in the last term", () -> x.read(0));
+        Check.put(x, "13:11 + 143:169");
+        Check.due("primes up to 13", x.read(3) + " " + Check.interval(x, 3), "1 0 0 0 0 0 0/1");
+        octaves(x, 2, 5000);
+        Check.put(x, "r2 - r2 - r2 + octave");
+        Check.due("5000, and -5000 in the sum", x.read(3) + " " + x.exponent(3, 0), "1 -4999");
+        Check.put(x, "r2 + octave - octave");
+        Check.arithmetic(x, "5001 in the sum", () -> x.read(0));
+        Check.put(x, "- r2 - octave + octave");
+        Check.arithmetic(x, "-5001 in the sum", () -> x.read(0));
+        Check.put(x, "octave + r2 - octave");
+        Check.arithmetic(x, "5001 in the sum", () -> x.read(0));
+        Check.put(x, "octave - octave + r2");
+        Check.due("5000 at the end", x.read(3) + " " + x.exponent(3, 0), "1 5000");
         x.fraction(2, 2, 1);
         x.times(2, 51, 1);
         Check.put(x, "100 r2 / 2");
@@ -299,7 +349,7 @@ public final class ChangesTest {
     }
 
     private static void giveName() {
-        Check.begin(10);
+        Doc.quote(10, "Gives the interval of a register a name, in place of the one that it has.", "Returns the name that it had; NONE without one.");
         Tuninghouse x = fifthIn0();
         Check.due("first", x.giveName(0, 99), -1);
         Check.due("again", x.giveName(0, 0), 99);
@@ -317,7 +367,7 @@ public final class ChangesTest {
     }
 
     private static void row() {
-        Check.begin(11);
+        Doc.quote(11, "Makes a scale the row of an interval: k times the interval, octaves taken off, for all k from a number on.", "Returns how many tones it has.");
         Tuninghouse x = fifthIn0();
         Check.due("major", x.row(0, 0, -1, 7), 7);
         Check.due("major", Check.sizes(x, 0), "0 204 408 498 702 906 1110");
@@ -328,6 +378,13 @@ public final class ChangesTest {
         Check.due("one", x.row(2, 0, 50, 1), 1);
         Check.due("50 fifths", Check.sizes(x, 2), "298");
         Check.due("forty", x.row(3, 0, 0, 40), 40);
+        Doc.quote(11, "Throws `ArithmeticException` see section 1");
+        Make.put(x, 2, 0, 100, -69);
+        Check.due("5000 of 3", x.row(0, 2, 50, 1) + " " + x.row(0, 2, -50, 40), "1 40");
+        Make.put(x, 2, 0, 102, -70);
+        Check.due("4998 of 3", x.row(0, 2, 49, 1), 1);
+        Check.arithmetic(x, "the last one 5100 of 3", () -> x.row(0, 2, 11, 40));
+        Check.arithmetic(x, "the first one -5100 of 3", () -> x.row(0, 2, -50, 40));
         x.fraction(2, 3, 1);
         x.times(2, 100, 1);
         Check.arithmetic(x, "300 times 51", () -> x.row(0, 2, 50, 2));
@@ -346,7 +403,7 @@ public final class ChangesTest {
     }
 
     private static void tone() {
-        Check.begin(12);
+        Doc.quote(12, "Puts the interval of a register, octaves taken off, into a scale, or takes it out.", "- `isIn`: whether it is in the scale then", "Returns whether it was.");
         Tuninghouse x = fifthIn0();
         Check.due("in", x.tone(0, 0, true), false);
         Check.due("in", Check.sizes(x, 0), "0 702");
@@ -362,9 +419,11 @@ public final class ChangesTest {
         Check.due("unison out", Check.sizes(x, 0), "386");
         Check.state(x, "the last one", () -> x.tone(0, 2, false));
         Check.due("none of it", x.tone(0, 7, false), false);
-        x.times(1, 100, 1);
-        x.times(1, 50, 1);
-        Check.arithmetic(x, "3 to the power of 5000", () -> x.tone(0, 1, true));
+        Doc.quote(12, "Throws `ArithmeticException` see section 1");
+        Make.put(x, 1, 0, 3155);
+        Check.due("5000 octaves off", x.tone(0, 1, true), false);
+        Make.put(x, 1, 0, 0, 2154);
+        Check.arithmetic(x, "5001 octaves off", () -> x.tone(0, 1, true));
         Check.due("it is not in", x.tone(0, 1, false), false);
         Check.index(x, "scale", () -> x.tone(4, 0, true));
         Check.index(x, "scale", () -> x.tone(-1, 0, true));
@@ -372,7 +431,14 @@ public final class ChangesTest {
     }
 
     private static void toneFull() {
+        Doc.quote(12, "Throws `IllegalStateException` if the scale would have no tone, or more than 40");
         Tuninghouse x = fifthIn0();
+        Check.state(x, "no tone", () -> x.tone(1, 7, false));
+        Check.due("it stays", x.tone(1, 7, true) + " " + x.tones(1), "true 1");
+        x.tone(1, 0, true);
+        Check.due("one of two", x.tone(1, 7, false) + " " + x.tones(1), "true 1");
+        Check.state(x, "the other one", () -> x.tone(1, 0, false));
+        Check.due("what is not in", x.tone(1, 7, false), false);
         x.row(0, 0, 1, 40);
         Check.state(x, "the 41st", () -> x.tone(0, 7, true));
         x.fraction(1, 3, 1);
@@ -388,7 +454,7 @@ public final class ChangesTest {
     }
 
     private static void mode() {
-        Check.begin(13);
+        Doc.quote(13, "Makes a scale its mode from a step on.", "Returns how many tones it has.");
         Tuninghouse x = fifthIn0();
         x.row(0, 0, -1, 7);
         Check.due("from the fifth on", x.mode(0, 4), 7);
@@ -399,19 +465,40 @@ public final class ChangesTest {
         Check.due("without unison", Check.sizes(x, 1), "204 702");
         Check.due("from 0", x.mode(1, 0), 2);
         Check.due("from 0", Check.sizes(x, 1), "0 498");
-        x.parts(1, 1, 360);
-        x.parts(2, 1, 7);
+        Doc.quote(13, "Throws `ArithmeticException` see section 1");
+        x.parts(1, 1, 40);
+        x.parts(2, 1, 9);
         x.tone(2, 1, true);
         x.tone(2, 2, true);
-        Check.arithmetic(x, "root 2520", () -> x.mode(2, 1));
+        Check.due("root 360", x.mode(2, 1) + " " + x.tones(2), "3 3");
+        x.parts(1, 1, 4);
+        x.parts(2, 1, 91);
+        x.row(2, 1, 0, 2);
+        x.tone(2, 2, true);
+        Check.arithmetic(x, "root 364", () -> x.mode(2, 1));
+        Check.arithmetic(x, "root 364", () -> x.mode(2, 2));
+        Check.due("but from 0", x.mode(2, 0), 3);
+        Make.put(x, 1, 0, 2500, -1707);
+        Make.put(x, 2, 0, -2500, 1707);
+        Make.onlyTone(x, 2, 1);
+        x.tone(2, 2, true);
+        Check.due("5000 of 3", x.mode(2, 0) + " " + x.key(2, 1, 3) + " " + Math.abs(x.exponent(3, 1)), "2 1 5000");
+        Make.put(x, 1, 0, 2501, -1707);
+        Make.onlyTone(x, 2, 1);
+        x.tone(2, 2, true);
+        Check.arithmetic(x, "5001 of 3", () -> x.mode(2, 0));
+        Check.arithmetic(x, "-5001 of 3", () -> x.mode(2, 1));
+        Doc.quote(13, "- `step`: a step");
         for (int bad : new int[] {-1, 7, LOW, HIGH}) {
             Check.index(x, "step " + bad, () -> x.mode(0, bad));
         }
+        Check.due("the last step", x.mode(0, 6), 7);
+        Check.index(x, "step 1 of one", () -> x.mode(3, 1));
         Check.index(x, "scale", () -> x.mode(4, 0));
     }
 
     private static void block() {
-        Check.begin(14);
+        Doc.quote(14, "Makes a scale the tones of the block of two commas.", "Returns the determinant.");
         Tuninghouse x = fifthIn0();
         x.fraction(1, 81, 80);
         x.fraction(2, 128, 125);
@@ -422,6 +509,7 @@ public final class ChangesTest {
         Check.due("7", Check.sizes(x, 1), "0 204 386 590 702 906 1088");
         Check.due("turned", x.block(1, 3, 1), -7);
         Check.due("turned", Check.sizes(x, 1), "0 204 386 590 702 906 1088");
+        Doc.quote(14, "Throws `ArithmeticException` if a comma is none (section 7), or the determinant is 0, or above 40 in amount, or see section 1");
         Check.arithmetic(x, "twice the same", () -> x.block(0, 1, 1));
         Check.arithmetic(x, "unison", () -> x.block(0, 1, 7));
         x.fraction(4, 7, 4);
@@ -436,10 +524,12 @@ public final class ChangesTest {
         Check.due("40", x.tones(0), 40);
         x.times(4, -1, 1);
         Check.due("-40", x.block(0, 4, 5), -40);
-        x.times(4, 100, 1);
-        x.times(5, 0, 1);
-        x.fraction(6, 1, 5);
-        Check.arithmetic(x, "100", () -> x.block(0, 4, 6));
+        x.fraction(4, 3, 1);
+        x.times(4, 41, 1);
+        x.fraction(5, 5, 1);
+        Check.arithmetic(x, "41", () -> x.block(0, 4, 5));
+        x.times(4, -1, 1);
+        Check.arithmetic(x, "-41", () -> x.block(0, 4, 5));
         x.fraction(5, 3, 1);
         x.times(5, 100, 1);
         x.times(5, 30, 1);
@@ -457,18 +547,16 @@ public final class ChangesTest {
     /** Two commas with the determinant 2, one of whose points lies beyond what can be kept. */
     private static void farBlock() {
         Tuninghouse x = new Tuninghouse();
-        x.fraction(0, 3, 1);
-        x.times(0, 100, 1);
-        x.times(0, 49, 1);
-        x.fraction(1, 5, 1);
-        x.sum(1, 0, 1, false);
-        x.fraction(2, 9, 1);
-        x.sum(2, 1, 2, true);
-        Check.arithmetic(x, "3 to the power of 4899", () -> x.block(0, 1, 2));
+        Make.put(x, 1, 0, 3154, 1);
+        Make.put(x, 2, 0, 3152, 1);
+        Check.due("4999 octaves off", x.block(0, 1, 2) + " " + x.tones(0), "2 2");
+        Make.put(x, 1, 0, 3155, 1);
+        Make.put(x, 2, 0, 3153, 1);
+        Check.arithmetic(x, "5001 octaves off", () -> x.block(0, 1, 2));
     }
 
     private static void key() {
-        Check.begin(15);
+        Doc.quote(15, "Puts a key of a scale into a register.", "Returns the step of the key.");
         Tuninghouse x = fifthIn0();
         x.row(0, 0, -1, 7);
         Check.due("key 4", x.key(0, 4, 1), 4);
@@ -488,7 +576,19 @@ public final class ChangesTest {
         x.tone(1, 7, false);
         Check.due("13 octaves", x.key(1, 13, 3), 0);
         Check.due("13 octaves", x.exponent(3, 0), 4681);
+        Doc.quote(15, "Throws `ArithmeticException` see section 1");
         Check.arithmetic(x, "14 octaves", () -> x.key(1, 14, 3));
+        // The tone, its parts, the key; whether it can be kept.
+        int[][] far = {{5, 27, 185, 5000}, {22, 27, -186, -5000}, {17, 28, 178, 0}, {11, 28, -179, 0}};
+        for (int[] f : far) {
+            x.parts(2, f[0], f[1]);
+            Make.onlyTone(x, 2, 2);
+            if (f[3] == 0) {
+                Check.arithmetic(x, "5001 in amount", () -> x.key(2, f[2], 3));
+            } else {
+                Check.due("5000 in amount", x.key(2, f[2], 3) + " " + x.exponent(3, 0), "0 " + f[3]);
+            }
+        }
         for (int bad : new int[] {-201, 201, LOW, HIGH}) {
             Check.argument(x, "key " + bad, () -> x.key(0, bad, 1));
             Check.index(x, "scale first", () -> x.key(4, bad, 1));
@@ -498,7 +598,7 @@ public final class ChangesTest {
     }
 
     private static void temper() {
-        Check.begin(16);
+        Doc.quote(16, "Sets the number of parts of the comma by which a fifth is less than 3 / 2.", "Returns what it was.");
         Tuninghouse x = new Tuninghouse();
         Check.due("fifth 0", x.temper(0, 6), 0);
         Check.due("fifth 0", x.temper(0, -24), 6);
@@ -514,28 +614,45 @@ public final class ChangesTest {
     }
 
     private static void move() {
-        Check.begin(17);
+        Doc.quote(17, "Lets the tune go on by the interval of a register, up or down.", "- `isDown`: whether it goes down", "Returns how many moves the tune has then.");
         Tuninghouse x = fifthIn0();
         x.fraction(1, 4, 3);
         Check.due("up", x.move(0, false), 1);
         Check.due("down", x.move(1, true), 2);
         x.drift(2, 2);
         Check.due("9 / 8", Check.interval(x, 2), "-3 2 0 0 0 0/1");
+        Doc.quote(17, "Throws `ArithmeticException` if where it is then could not be kept (section 1)");
         x.parts(3, 1, 360);
         x.parts(4, 1, 7);
         x.move(3, false);
         Check.arithmetic(x, "root 2520", () -> x.move(4, true));
-        for (int i = 4; i <= 60; i++) {
+        Check.due("back", x.move(3, true), 4);
+        octaves(x, 5, 5000);
+        Check.due("4997 octaves up", x.move(5, false), 5);
+        x.fraction(6, 16, 1);
+        Check.arithmetic(x, "5001 octaves up", () -> x.move(6, false));
+        x.fraction(6, 8, 1);
+        Check.due("5000 octaves up", x.move(6, false), 6);
+        x.fraction(6, 2, 1);
+        Check.arithmetic(x, "5001 octaves up", () -> x.move(6, false));
+        Check.due("down again", x.move(5, true) + " " + x.move(5, true), "7 8");
+        Check.arithmetic(x, "5001 octaves down", () -> x.move(6, true));
+        x.drift(8, 2);
+        Check.due("5000 octaves down", Check.interval(x, 2), "-5000 2 0 0 0 0/1");
+        Check.due("up again", x.move(5, false), 9);
+        for (int i = 10; i <= 60; i++) {
             Check.due("move " + i, x.move(1, i % 2 == 0), i);
         }
+        Doc.quote(17, "Throws `IllegalStateException` if it has 60 moves");
         Check.state(x, "move 61", () -> x.move(0, false));
-        Check.state(x, "move 61, and not to be kept", () -> x.move(4, false));
+        Check.state(x, "move 61, back", () -> x.move(0, true));
+        Check.state(x, "move 61, and not to be kept", () -> x.move(5, true));
         Check.index(x, "register first", () -> x.move(8, false));
         Check.index(x, "register", () -> x.move(-1, false));
     }
 
     private static void drift() {
-        Check.begin(18);
+        Doc.quote(18, "Puts where the tune is behind some of its moves (the sum of these) into a register.", "Returns how many octaves were to be taken away from it to leave a size that is at least -1/2 and less than 1/2 (the register has it with them).");
         Tuninghouse x = fifthIn0();
         for (int i = 0; i < 12; i++) {
             x.move(0, false);
@@ -553,6 +670,7 @@ public final class ChangesTest {
         x.move(2, true);
         Check.due("a half", x.drift(1, 1), 1);
         Check.due("less half", x.drift(3, 1), 0);
+        Doc.quote(18, "- `many`: 0 to 60, at most as many as it has");
         for (int bad : new int[] {-1, 4, 60, 61, LOW, HIGH}) {
             Check.argument(x, "many " + bad, () -> x.drift(bad, 1));
             Check.argument(x, "many first", () -> x.drift(bad, 8));
@@ -562,7 +680,7 @@ public final class ChangesTest {
     }
 
     private static void endTune() {
-        Check.begin(19);
+        Doc.quote(19, "Empties the tune.", "Returns how many moves it had.");
         Tuninghouse x = fifthIn0();
         Check.due("empty", x.endTune(), 0);
         x.move(0, false);
@@ -576,8 +694,13 @@ public final class ChangesTest {
     }
 
     private static void undo() {
-        Check.begin(20);
+        Doc.quote(20, "Undoes the latest change that was not undone.", "Returns how many changes can still be undone.");
         Tuninghouse x = new Tuninghouse();
+        x.parts(0, 1, 1);
+        x.parts(0, 2, 1);
+        Check.due("the latest", x.undo() + " " + x.exponent(0, 0), "1 1");
+        Check.due("the one ahead of it", x.undo() + " " + x.exponent(0, 0), "0 0");
+        Doc.quote(20, "Throws `IllegalStateException` if there is none");
         Check.state(x, "nothing", () -> x.undo());
         for (int i = 1; i <= 10; i++) {
             x.parts(0, i, 1);

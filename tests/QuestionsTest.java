@@ -1,11 +1,15 @@
+import java.math.BigInteger;
 import java.util.NoSuchElementException;
 
 /** Promises 21 to 55: all that is asked, the text and the measures. */
-public final class QuestionsTest {
+final class QuestionsTest {
     private static final int LOW = Integer.MIN_VALUE;
     private static final int HIGH = Integer.MAX_VALUE;
 
-    public static void main(String[] args) {
+    private QuestionsTest() {
+    }
+
+    static void all() {
         exponentAndRoot();
         compare();
         cents();
@@ -15,6 +19,7 @@ public final class QuestionsTest {
         tonesAndSteps();
         sizeOf();
         gapSorts();
+        gapsFar();
         symmetry();
         nearest();
         term();
@@ -37,7 +42,6 @@ public final class QuestionsTest {
         evenness();
         meanImpurity();
         errors();
-        Check.end(21, 55);
     }
 
     private static Tuninghouse fifthIn0() {
@@ -46,23 +50,8 @@ public final class QuestionsTest {
         return x;
     }
 
-    /** Puts an interval with the root 1 by way of register 7. */
-    private static void put(Tuninghouse x, int register, int... exponents) {
-        int[] primes = {2, 3, 5, 7, 11, 13};
-        x.fraction(register, 1, 1);
-        for (int i = 0; i < exponents.length; i++) {
-            x.fraction(7, primes[i], 1);
-            x.times(7, 100, 1);
-            x.times(7, exponents[i] / 100, 1);
-            x.sum(register, register, 7, false);
-            x.fraction(7, primes[i], 1);
-            x.times(7, exponents[i] % 100, 1);
-            x.sum(register, register, 7, false);
-        }
-    }
-
     private static void exponentAndRoot() {
-        Check.begin(21);
+        Doc.quote(21, "Returns an exponent of the interval of a register.", "Returns the exponent.");
         Tuninghouse x = new Tuninghouse();
         x.fraction(0, 1001, 60);
         String[] due = {"-2", "-1", "-1", "1", "1", "1"};
@@ -76,7 +65,7 @@ public final class QuestionsTest {
         }
         Check.index(x, "register", () -> x.exponent(8, 0));
         Check.index(x, "register", () -> x.exponent(-1, 0));
-        Check.begin(22);
+        Doc.quote(22, "Returns the root of the interval of a register.", "Returns the root.");
         Check.due("root", x.root(0), 7);
         Check.due("of the unison", x.root(1), 1);
         x.times(0, 7, 1);
@@ -87,7 +76,7 @@ public final class QuestionsTest {
     }
 
     private static void compare() {
-        Check.begin(23);
+        Doc.quote(23, "Compares the intervals of two registers.", "Returns -1, 0 or 1, as the first one is less, equal or greater.");
         Tuninghouse x = fifthIn0();
         x.parts(1, 7, 12);
         Check.due("3 / 2 and 7 of 12", x.compare(0, 1), 1);
@@ -98,11 +87,11 @@ public final class QuestionsTest {
         x.fraction(3, 2, 3);
         Check.due("below and above", x.compare(3, 0), -1);
         // 2 to the power of -351, and so on, is above the unison by less than 2 to the power of -56 octaves.
-        put(x, 4, -351, 666, -710, 755, -358, 17);
+        Make.put(x, 4, -351, 666, -710, 755, -358, 17);
         Check.due("a small one, turned", x.compare(4, 5), -1);
         x.times(4, -1, 1);
         Check.due("a small one", x.compare(4, 5), 1);
-        put(x, 5, 1246, 3003, -1188, -558, 2091, -2409);
+        Make.put(x, 5, 1246, 3003, -1188, -558, 2091, -2409);
         Check.due("a smaller one", x.compare(5, 6), -1);
         x.times(5, -1, 1);
         Check.due("small and smaller", x.compare(4, 5), 1);
@@ -112,7 +101,7 @@ public final class QuestionsTest {
     }
 
     private static void cents() {
-        Check.begin(24);
+        Doc.quote(24, "Returns the size of the interval of a register in cents, told to some digits behind the point.", "Returns the number of cents times 10 to the power of digits, rounded.");
         Tuninghouse x = fifthIn0();
         Check.due("down", x.cents(0, 9, 0), 701955000865L);
         Check.due("up", x.cents(0, 9, 1), 701955000866L);
@@ -122,6 +111,7 @@ public final class QuestionsTest {
         Check.due("down", x.cents(1, 3, 0), -701956);
         Check.due("up", x.cents(1, 3, 1), -701955);
         Check.due("nearest", x.cents(1, 3, 2), -701955);
+        Doc.quote(24, "- `way`: DOWN (to the lower one), UP (to the higher one) or NEAREST (a half to the higher one)");
         x.parts(2, 1, 32);
         Check.due("37.5 down", x.cents(2, 0, 0), 37);
         Check.due("37.5 up", x.cents(2, 0, 1), 38);
@@ -131,9 +121,20 @@ public final class QuestionsTest {
         Check.due("-37.5 down", x.cents(2, 0, 0), -38);
         Check.due("-37.5 up", x.cents(2, 0, 1), -37);
         Check.due("-37.5 nearest", x.cents(2, 0, 2), -37);
+        int[][] near = {{1, 1, 38, 37, 38}, {1, -1, 37, 37, 38}, {-1, 1, -37, -38, -37}, {-1, -1, -38, -38, -37}};
+        for (int[] n : near) {
+            Make.octavesAnd(x, 2, n[0], 32, n[1]);
+            Check.due("37.5 and a hair", x.cents(2, 0, 2) + " " + x.cents(2, 0, 0) + " " + x.cents(2, 0, 1), n[2] + " " + n[3] + " " + n[4]);
+        }
+        x.parts(2, 1, 12);
+        Check.due("whole cents", x.cents(2, 9, 0) + " " + x.cents(2, 9, 1) + " " + x.cents(2, 9, 2), "100000000000 100000000000 100000000000");
+        Make.octavesAnd(x, 2, 1, 12, 1);
+        Check.due("a hair above", x.cents(2, 9, 0) + " " + x.cents(2, 9, 1) + " " + x.cents(2, 9, 2), "100000000000 100000000001 100000000000");
+        Make.octavesAnd(x, 2, -1, 12, -1);
+        Check.due("a hair below", x.cents(2, 9, 0) + " " + x.cents(2, 9, 1) + " " + x.cents(2, 9, 2), "-100000000001 -100000000000 -100000000000");
         x.fraction(3, 81, 80);
         Check.due("comma", x.cents(3, 9, 2), 21506289597L);
-        put(x, 4, 0, 0, 0, 0, 0, 5000);
+        Make.put(x, 4, 0, 0, 0, 0, 0, 5000);
         Check.due("13 to the power of 5000", x.cents(4, 9, 0), 22202638308846552L);
         for (int bad : new int[] {-1, 10, LOW, HIGH}) {
             Check.argument(x, "digits " + bad, () -> x.cents(0, bad, 0));
@@ -146,7 +147,7 @@ public final class QuestionsTest {
     }
 
     private static void tell() {
-        Check.begin(25);
+        Doc.quote(25, "Tells the fraction of a register as the told numbers 0 (over the line) and 1 (under it), without common divisors.", "Returns whether it is above the unison.");
         Tuninghouse x = fifthIn0();
         Check.due("3 / 2", x.tell(0), true);
         Check.due("over", x.toldAt(0, 2), 3);
@@ -157,13 +158,24 @@ public final class QuestionsTest {
         Check.due("under", x.toldAt(1, 2), 5);
         Check.due("unison", x.tell(2), false);
         Check.due("1", x.toldAt(1, 2), 1);
-        put(x, 3, 40, 40, 40, -40, 40, -40);
+        Doc.quote(25, "Throws `ArithmeticException` if its root is above 1, or an exponent is above 40 in amount");
+        Make.put(x, 3, 40, 40, 40, -40, 40, -40);
         Check.due("40", x.tell(3), true);
         Check.due("digits over", x.toldAt(0, 0), 101);
         Check.due("digits under", x.toldAt(1, 0), 79);
-        put(x, 4, 0, 0, 0, 0, 0, -41);
+        for (int p = 0; p < 6; p++) {
+            for (int e = -41; e <= 41; e += 82) {
+                int[] exponents = new int[6];
+                exponents[p] = e;
+                Make.put(x, 4, exponents);
+                Check.arithmetic(x, e + " of prime " + p, () -> x.tell(4));
+            }
+        }
+        Make.putRoot(x, 4, 2, 3);
+        Check.arithmetic(x, "root 2", () -> x.tell(4));
+        Make.put(x, 4, 0, 0, 0, 0, 0, -41);
         Check.arithmetic(x, "-41", () -> x.tell(4));
-        put(x, 4, 41);
+        Make.put(x, 4, 41);
         Check.arithmetic(x, "41", () -> x.tell(4));
         x.parts(4, 1, 2);
         Check.arithmetic(x, "a root", () -> x.tell(4));
@@ -172,24 +184,25 @@ public final class QuestionsTest {
     }
 
     private static void toldAt() {
-        Check.begin(26);
+        Doc.quote(26, "Counts the told numbers.", "Returns 0 or 2.");
         Tuninghouse x = fifthIn0();
         Check.due("none", x.told(), 0);
         x.parts(1, 1, 2);
         Check.arithmetic(x, "a root", () -> x.tell(1));
         Check.due("still none", x.told(), 0);
-        Check.begin(27);
+        Doc.quote(27, "Tells about a told number.", "Returns what is asked.", "- `which`: 0 or 1");
         Check.index(x, "none yet", () -> x.toldAt(0, 0));
         Check.index(x, "none yet, and no such question", () -> x.toldAt(0, 3));
         x.tell(0);
         Check.due("two", x.told(), 2);
-        put(x, 2, -40, 40, 0, 40);
+        Make.put(x, 2, -40, 40, 0, 40);
         x.tell(2);
         Check.due("decimal digits of 21 to the power of 40", x.toldAt(0, 0), 53);
         Check.due("binary digits", x.toldAt(0, 1), 176);
-        Check.due("left", x.toldAt(0, 2), new java.math.BigInteger("21").pow(40).mod(java.math.BigInteger.valueOf(1000003)));
+        Check.due("left", x.toldAt(0, 2), new BigInteger("21").pow(40).mod(BigInteger.valueOf(1000003)));
         Check.due("decimal digits of 2 to the power of 40", x.toldAt(1, 0), 13);
         Check.due("binary digits", x.toldAt(1, 1), 41);
+        Doc.quote(27, "- `what`: 0 how many decimal digits it has (1 of 0), 1 how many binary digits (0 of 0), 2 what it leaves by 1000003");
         x.beats(0, 440, 3, 2);
         Check.due("digits of 0", x.toldAt(0, 0), 1);
         Check.due("binary digits of 0", x.toldAt(0, 1), 0);
@@ -208,6 +221,19 @@ public final class QuestionsTest {
         x.fraction(3, 1000000, 1);
         x.tell(3);
         Check.due("left of 1000000", x.toldAt(0, 2), 1000000);
+        // Just below, and just above, powers of ten and of two.
+        int[][] near = {{0, 7, 15, 9, 0, 5}, {11, 0, 0, 9, 2, 0}, {18, 4, 0, 0, 8, 3}, {0, 1, 11, 10, 1, 3}, {7, 6, 0, 8, 1, 2}, {0, 3, 15, 3, 5, 3}, {7, 2, 0, 2, 6, 0},
+            {0, 6, 2, 4, 7, 2}, {0, 7, 5, 5, 6, 5}, {0, 3, 6, 7, 1, 6}, {0, 2, 3, 6, 2, 3}, {16}, {4, 2, 1, 1, 0, 1}, {32}, {40}, {0}};
+        for (int[] n : near) {
+            Make.put(x, 3, n);
+            x.tell(3);
+            BigInteger due = BigInteger.ONE;
+            for (int i = 0; i < n.length; i++) {
+                due = due.multiply(BigInteger.valueOf(Make.PRIMES[i]).pow(n[i]));
+            }
+            Check.due("digits of " + due, x.toldAt(0, 0) + " " + x.toldAt(0, 1) + " " + x.toldAt(0, 2),
+                due.toString().length() + " " + due.bitLength() + " " + due.mod(BigInteger.valueOf(1000003)));
+        }
         for (int bad : new int[] {-1, 2, LOW, HIGH}) {
             Check.index(x, "which " + bad, () -> x.toldAt(bad, 3));
         }
@@ -217,7 +243,7 @@ public final class QuestionsTest {
     }
 
     private static void names() {
-        Check.begin(28);
+        Doc.quote(28, "Returns the name of the interval of a register.", "Returns the name; NONE without one.");
         Tuninghouse x = fifthIn0();
         Check.due("without", x.nameOf(0), Tuninghouse.NONE);
         x.giveName(0, 0);
@@ -228,7 +254,7 @@ public final class QuestionsTest {
         Check.due("another one", x.nameOf(0), -1);
         Check.index(x, "register", () -> x.nameOf(8));
         Check.index(x, "register", () -> x.nameOf(-1));
-        Check.begin(29);
+        Doc.quote(29, "Counts the intervals with names that are less than the interval of a register.", "Returns how many there are.");
         Check.due("one below 3", x.namesBelow(0), 1);
         Check.due("not itself", x.namesBelow(1), 0);
         for (int i = 1; i <= 100; i++) {
@@ -241,12 +267,16 @@ public final class QuestionsTest {
         Check.due("next to it", x.namesBelow(2), 50);
         x.parts(2, 1000, 1);
         Check.due("below all", x.namesBelow(2), 101);
+        for (int i = 1; i <= 100; i++) {
+            x.parts(2, i * 7 % 101 - 50, 50);
+            Check.due("each has its own name", x.nameOf(2), i % 100);
+        }
         Check.index(x, "register", () -> x.namesBelow(8));
         Check.index(x, "register", () -> x.namesBelow(LOW));
     }
 
     private static void tonesAndSteps() {
-        Check.begin(30);
+        Doc.quote(30, "Counts the tones of a scale.", "Returns how many there are.");
         Tuninghouse x = fifthIn0();
         Check.due("one", x.tones(3), 1);
         x.row(3, 0, -1, 7);
@@ -254,7 +284,7 @@ public final class QuestionsTest {
         for (int bad : new int[] {-1, 4, LOW, HIGH}) {
             Check.index(x, "scale " + bad, () -> x.tones(bad));
         }
-        Check.begin(31);
+        Doc.quote(31, "Returns the step of a scale at which the interval of a register, octaves taken off, is a tone.", "Returns the step; if it is none, -1 less the number of tones that are less.");
         Check.due("a fifth", x.stepOf(3, 0), 4);
         x.fraction(1, 4, 3);
         Check.due("a fourth", x.stepOf(3, 1), 3);
@@ -268,15 +298,22 @@ public final class QuestionsTest {
         Check.due("above all", x.stepOf(3, 1), -8);
         x.tone(3, 2, false);
         Check.due("below all", x.stepOf(3, 2), -1);
-        put(x, 2, 0, 5000);
+        Make.put(x, 2, 0, 5000);
         Check.due("what could not be kept", x.stepOf(3, 2), -6);
+        Make.octavesAnd(x, 2, 0, 1, -1);
+        Check.due("just below the unison is above all", x.stepOf(0, 2), -2);
+        Make.octavesAnd(x, 2, 1, 1, 1);
+        Check.due("just above the octave is just above the unison", x.stepOf(0, 2), -2);
+        x.tone(0, 2, true);
+        Make.octavesAnd(x, 2, -1, 1, 0);
+        Check.due("the unison", x.stepOf(0, 2) + " " + x.tones(0), "0 2");
         Check.index(x, "scale", () -> x.stepOf(4, 0));
         Check.index(x, "register", () -> x.stepOf(0, 8));
         Check.index(x, "register", () -> x.stepOf(0, -1));
     }
 
     private static void sizeOf() {
-        Check.begin(32);
+        Doc.quote(32, "Returns the size of a tone or a gap of a scale in cents, rounded to the nearest whole number (a half upward).", "- `isGap`: whether the gap is asked", "Returns the cents.");
         Tuninghouse x = fifthIn0();
         x.row(0, 0, -1, 7);
         Check.due("tones", Check.sizes(x, 0), "0 204 408 498 702 906 1110");
@@ -300,7 +337,7 @@ public final class QuestionsTest {
     }
 
     private static void gapSorts() {
-        Check.begin(33);
+        Doc.quote(33, "Counts the sorts of gaps of a scale.", "Returns how many there are.");
         Tuninghouse x = fifthIn0();
         Check.due("one", x.gapSorts(0), 1);
         x.row(0, 0, -1, 7);
@@ -312,7 +349,7 @@ public final class QuestionsTest {
         Check.due("31 alike", x.gapSorts(2), 1);
         Check.index(x, "scale", () -> x.gapSorts(4));
         Check.index(x, "scale", () -> x.gapSorts(-1));
-        Check.begin(34);
+        Doc.quote(34, "Returns the sort of the gap of a step.", "Returns the number of the sort.");
         StringBuilder s = new StringBuilder();
         for (int i = 0; i < 7; i++) {
             s.append(x.gapSort(0, i));
@@ -329,8 +366,33 @@ public final class QuestionsTest {
         Check.index(x, "scale", () -> x.gapSort(4, 0));
     }
 
+    /** Gaps of intervals with great exponents and roots that have no divisor in common. */
+    private static void gapsFar() {
+        int[][][] tones = {
+            {{0, 2866, 4616, -3827, -4685, 2787}, {0, -4431, -318, -2228, 447, 3976}},
+            {{0, -2430, -4571, -85, 2098, 1902}, {0, -2952, -4176, -4164, 1289, 4707}},
+            {{0, 3874, -4386, -1667, 1783, -123}, {0, 3292, -1254, -487, -990, 470}},
+            {{0, 688, -1174, -3785, 4744, -198}, {0, 2981, -2921, -2085, 3344, 13}},
+        };
+        for (int[][] t : tones) {
+            Tuninghouse x = new Tuninghouse();
+            Make.putRoot(x, 0, 323, t[0]);
+            Make.putRoot(x, 1, 360, t[1]);
+            x.tone(0, 0, true);
+            x.tone(0, 1, true);
+            Check.due("three tones", x.tones(0) + " " + x.gapSorts(0), "3 3");
+            for (int i = 0; i < 3; i++) {
+                int less = 0;
+                for (int k = 0; k < 3; k++) {
+                    less += x.sizeOf(0, k, true) < x.sizeOf(0, i, true) ? 1 : 0;
+                }
+                Check.due("as many sorts below as sizes", x.gapSort(0, i), less);
+            }
+        }
+    }
+
     private static void symmetry() {
-        Check.begin(35);
+        Doc.quote(35, "Counts the steps of a scale from which on its mode is the scale itself.", "Returns how many there are; 0 for a scale without the unison.");
         Tuninghouse x = fifthIn0();
         Check.due("one tone", x.symmetry(0), 1);
         x.row(0, 0, -1, 7);
@@ -360,7 +422,7 @@ public final class QuestionsTest {
     }
 
     private static void nearest() {
-        Check.begin(36);
+        Doc.quote(36, "Returns a nearest miss of the row of a register.", "Returns the number.");
         Tuninghouse x = fifthIn0();
         int[] due = {1, 2, 5, 12, 41, 53, 306, 665};
         for (int i = 0; i < due.length; i++) {
@@ -371,6 +433,7 @@ public final class QuestionsTest {
                 Check.refused(x, "one less", NoSuchElementException.class, () -> x.nearest(0, at, due[at] - 1));
             }
         }
+        Doc.quote(36, "Throws `NoSuchElementException` if there are not so many");
         Check.refused(x, "index 8", NoSuchElementException.class, () -> x.nearest(0, 8, 2000));
         Check.refused(x, "index far", NoSuchElementException.class, () -> x.nearest(0, HIGH, 2000));
         x.fraction(1, 2, 3);
@@ -382,6 +445,7 @@ public final class QuestionsTest {
         Check.due("3 of 5", x.nearest(2, 0, 5) + " " + x.nearest(2, 1, 5) + " " + x.nearest(2, 2, 5), "1 2 5");
         Check.due("the unison", x.nearest(3, 0, 1), 1);
         Check.refused(x, "the unison", NoSuchElementException.class, () -> x.nearest(3, 1, 2000));
+        Doc.quote(36, "Throws `IllegalArgumentException` if index is below 0, or most is out of range");
         for (int bad : new int[] {0, -1, 2001, LOW, HIGH}) {
             Check.argument(x, "most " + bad, () -> x.nearest(0, 0, bad));
             Check.index(x, "register first", () -> x.nearest(8, 0, bad));
@@ -392,7 +456,7 @@ public final class QuestionsTest {
     }
 
     private static void term() {
-        Check.begin(37);
+        Doc.quote(37, "Returns a term of the continued fraction of the size of a register.", "Returns the term.");
         Tuninghouse x = new Tuninghouse();
         x.fraction(0, 3, 1);
         int[] due = {1, 1, 1, 2, 2, 3, 1, 5, 2, 23, 2, 2, 1, 1, 55, 1};
@@ -401,14 +465,20 @@ public final class QuestionsTest {
         }
         x.parts(1, 7, 12);
         Check.due("7 of 12", x.term(1, 0) + " " + x.term(1, 1) + " " + x.term(1, 2) + " " + x.term(1, 3) + " " + x.term(1, 4), "0 1 1 2 2");
+        Doc.quote(37, "Throws `NoSuchElementException` if the fraction has ended ahead of it");
         Check.refused(x, "it has ended", NoSuchElementException.class, () -> x.term(1, 5));
         x.parts(1, 1000, 1);
         Check.due("1000 octaves", x.term(1, 0), 1000);
         Check.refused(x, "it has ended", NoSuchElementException.class, () -> x.term(1, 1));
+        Doc.quote(37, "Throws `ArithmeticException` if the interval is not above the unison, or the term that is asked is above 1000000000000000000");
         Check.arithmetic(x, "the unison", () -> x.term(2, 0));
         Check.arithmetic(x, "the unison, behind its end", () -> x.term(2, 15));
         x.fraction(2, 2, 3);
         Check.arithmetic(x, "below the unison", () -> x.term(2, 3));
+        Make.octavesAnd(x, 2, 0, 1, -1);
+        Check.arithmetic(x, "just below the unison", () -> x.term(2, 0));
+        Make.octavesAnd(x, 2, 0, 1, 1);
+        Check.due("just above the unison", x.term(2, 0), 0);
         for (int bad : new int[] {-1, 16, LOW, HIGH}) {
             Check.argument(x, "index " + bad, () -> x.term(0, bad));
             Check.argument(x, "index, and the unison", () -> x.term(3, bad));
@@ -420,10 +490,10 @@ public final class QuestionsTest {
     /** Intervals so small that a term is at, or beyond, what is told. */
     private static void termFar() {
         Tuninghouse x = new Tuninghouse();
-        put(x, 0, 351, -666, 710, -755, 358, -17);
+        Make.put(x, 0, 351, -666, 710, -755, 358, -17);
         Check.due("term 0", x.term(0, 0), 0);
         Check.due("term 1", x.term(0, 1), 73120905889729845L);
-        put(x, 1, -1246, -3003, 1188, 558, -2091, 2409);
+        Make.put(x, 1, -1246, -3003, 1188, 558, -2091, 2409);
         Check.due("term 0", x.term(1, 0), 0);
         Check.arithmetic(x, "term 1", () -> x.term(1, 1));
         Check.due("term 2 to 15 are told all the same", x.term(1, 2) > 0 && x.term(1, 15) > 0, true);
@@ -436,7 +506,7 @@ public final class QuestionsTest {
     }
 
     private static void best() {
-        Check.begin(38);
+        Doc.quote(38, "Returns the best number of a register in equal parts.", "Returns the number.");
         Tuninghouse x = fifthIn0();
         Check.due("12", x.best(12, 0), 7);
         Check.due("53", x.best(53, 0), 31);
@@ -448,7 +518,7 @@ public final class QuestionsTest {
         Check.due("less half", x.best(1, 1), 0);
         x.parts(1, -3, 2);
         Check.due("less one and a half", x.best(1, 1), -1);
-        put(x, 2, 5000, 5000, 5000, 5000, 5000, 5000);
+        Make.put(x, 2, 5000, 5000, 5000, 5000, 5000, 5000);
         Check.due("the greatest", x.best(10000, 2), 743705843);
         for (int bad : new int[] {0, -1, 10001, LOW, HIGH}) {
             Check.argument(x, "parts " + bad, () -> x.best(bad, 0));
@@ -459,7 +529,7 @@ public final class QuestionsTest {
     }
 
     private static void mapped() {
-        Check.begin(39);
+        Doc.quote(39, "Returns the number that a register is mapped to in equal parts.", "Returns the number.");
         Tuninghouse x = fifthIn0();
         Check.due("a fifth in 12", x.mapped(12, 0), 7);
         x.fraction(1, 81, 80);
@@ -469,6 +539,7 @@ public final class QuestionsTest {
         x.fraction(2, 1001, 60);
         Check.due("all primes in 12", x.mapped(12, 2), 34 + 42 + 44 - 24 - 19 - 28);
         Check.due("in 1", x.mapped(1, 2), 3 + 3 + 4 - 2 - 2 - 2);
+        Doc.quote(39, "Throws `ArithmeticException` if the root of the interval is above 1");
         x.parts(3, 1, 2);
         Check.arithmetic(x, "a root", () -> x.mapped(12, 3));
         for (int bad : new int[] {0, -1, 1001, LOW, HIGH}) {
@@ -480,7 +551,7 @@ public final class QuestionsTest {
     }
 
     private static void commas() {
-        Check.begin(40);
+        Doc.quote(40, "Counts the commas: the intervals with the root 1, exponents b of 3 from -three to three, c of 5 from -five to five, no other primes but 2, that are above the unison, less than the interval of a register, and vanish in equal parts, if that is asked.", "Returns how many there are.");
         Tuninghouse x = new Tuninghouse();
         x.fraction(0, 2, 1);
         Check.due("none but the unison", x.commas(0, 0, 0, 0), 0);
@@ -499,12 +570,24 @@ public final class QuestionsTest {
         Check.due("below the unison", x.commas(20, 10, 7, 0), 0);
         x.fraction(4, 1, 2);
         Check.due("below 1 / 2", x.commas(20, 10, 4, 0), 0);
+        int[][] bounds = {{1, 1}, {16, 15}, {15, 14}, {6, 5}, {5, 4}, {4, 3}, {3, 2}, {8, 5}, {5, 3}, {15, 8}, {21, 11}, {2, 1}};
+        for (int[] b : bounds) {
+            x.fraction(4, b[0], b[1]);
+            Check.due("below " + b[0] + " / " + b[1], x.commas(1, 1, 4, 0), below(b[0], b[1]));
+        }
         x.parts(5, 1, 24);
         Check.due("below a root", x.commas(5, 3, 5, 0), 4);
+        Doc.quote(40, "Throws `ArithmeticException` if the interval of the register is greater than the octave");
         x.fraction(4, 3, 1);
         Check.arithmetic(x, "above the octave", () -> x.commas(1, 1, 4, 0));
         x.parts(4, 360, 359);
         Check.arithmetic(x, "just above the octave", () -> x.commas(0, 0, 4, 0));
+        Make.octavesAnd(x, 4, 1, 1, 1);
+        Check.arithmetic(x, "above the octave by a hair", () -> x.commas(0, 0, 4, 0));
+        Make.octavesAnd(x, 4, 1, 1, -1);
+        Check.due("below the octave by a hair", x.commas(1, 1, 4, 0), 8);
+        x.fraction(4, 2, 1);
+        Check.due("the octave", x.commas(1, 1, 4, 0), 8);
         for (int bad : new int[] {-1, 21, LOW, HIGH}) {
             Check.argument(x, "three " + bad, () -> x.commas(bad, 0, 8, 0));
         }
@@ -518,6 +601,15 @@ public final class QuestionsTest {
         Check.index(x, "register", () -> x.commas(0, 0, -1, 100));
     }
 
+    /** How many of the eight intervals of 3 and 5, at most once each, are below a fraction. */
+    private static int below(int over, int under) {
+        int count = 0;
+        for (int[] c : new int[][] {{16, 15}, {6, 5}, {5, 4}, {4, 3}, {3, 2}, {8, 5}, {5, 3}, {15, 8}}) {
+            count += c[0] * under < over * c[1] ? 1 : 0;
+        }
+        return count;
+    }
+
     private static Tuninghouse werckmeister() {
         Tuninghouse x = new Tuninghouse();
         for (int k : new int[] {0, 1, 2, 5}) {
@@ -527,7 +619,7 @@ public final class QuestionsTest {
     }
 
     private static void closes() {
-        Check.begin(41);
+        Doc.quote(41, "Tells whether the twelve fifths close.", "Returns true if they do.");
         Tuninghouse x = werckmeister();
         Check.due("four of 6", x.closes(), true);
         x.temper(11, 1);
@@ -539,7 +631,7 @@ public final class QuestionsTest {
     }
 
     private static void impurity() {
-        Check.begin(42);
+        Doc.quote(42, "Returns how far the third of a key is from pure, in cents, told to some digits, rounded to the nearest one (a half to the higher one).", "Returns the cents, without sign, times 10 to the power of digits.");
         Tuninghouse x = werckmeister();
         int[] due = {3911, 9776, 9776, 15641, 15641, 15641, 21506, 21506, 21506, 15641, 9776, 3911};
         for (int k = 0; k < 12; k++) {
@@ -563,7 +655,7 @@ public final class QuestionsTest {
     }
 
     private static void pure() {
-        Check.begin(43);
+        Doc.quote(43, "Returns a key by the order of the keys (section 6).", "Returns the key.");
         Tuninghouse x = werckmeister();
         int[] due = {0, 11, 1, 2, 10, 3, 4, 5, 9, 6, 7, 8};
         for (int k = 0; k < 12; k++) {
@@ -578,13 +670,14 @@ public final class QuestionsTest {
         y.temper(4, 23);
         Check.due("wide by 21, narrow by 23", y.impurity(0, 6) + " " + y.impurity(4, 6), "978781 976220");
         Check.due("first", y.pure(0) + " " + y.pure(4), "1 0");
+        Doc.quote(43, "Throws `IndexOutOfBoundsException` if there is no such place");
         for (int bad : new int[] {-1, 12, LOW, HIGH}) {
             Check.index(x, "place " + bad, () -> x.pure(bad));
         }
     }
 
     private static void moves() {
-        Check.begin(44);
+        Doc.quote(44, "Counts the moves of the tune.", "Returns 0 to 60.");
         Tuninghouse x = fifthIn0();
         for (int i = 1; i <= 60; i++) {
             x.move(0, i % 2 == 0);
@@ -597,7 +690,7 @@ public final class QuestionsTest {
     }
 
     private static void chord() {
-        Check.begin(45);
+        Doc.quote(45, "Tells how a chord stands in whole numbers: the least whole numbers, one for each of its registers, that are to each other as the intervals.", "Returns the number of this one.");
         Tuninghouse x = new Tuninghouse();
         x.fraction(1, 5, 4);
         x.fraction(2, 3, 2);
@@ -609,25 +702,30 @@ public final class QuestionsTest {
         x.fraction(4, 8, 1);
         x.fraction(5, 4, 1);
         Check.due("2 : 1", x.chord(48, 4) + " " + x.chord(48, 5), "2 1");
-        put(x, 4, 31);
+        Doc.quote(45, "Throws `ArithmeticException` if one of the intervals has a root above 1, or an exponent above 100 in amount, or the number is above 2147483647");
+        Make.put(x, 4, 31);
         Check.arithmetic(x, "2147483648", () -> x.chord(17, 4));
         Check.due("1 beside it", x.chord(17, 0), 1);
-        put(x, 4, 30);
+        Make.put(x, 4, 30);
         Check.due("1073741824", x.chord(17, 4), 1073741824);
-        put(x, 4, 100, -100);
+        Make.put(x, 4, 2, 3, 0, 6, 0, 2);
+        Check.due("the greatest one that can be", x.chord(17, 4), 2147329548);
+        Make.put(x, 4, 100, -100);
         Check.due("100", x.chord(16, 4), 1);
         Check.arithmetic(x, "the number", () -> x.chord(17, 0));
-        put(x, 4, 101);
+        Make.put(x, 4, 101);
         Check.arithmetic(x, "101", () -> x.chord(17, 0));
-        put(x, 4, 0, 0, 0, 0, 0, -101);
+        Make.put(x, 4, 0, 0, 0, 0, 0, -101);
         Check.arithmetic(x, "-101", () -> x.chord(16, 4));
         x.parts(4, 1, 2);
         Check.arithmetic(x, "a root", () -> x.chord(17, 0));
         Check.due("not in the chord", x.chord(7, 1), 5);
+        Doc.quote(45, "Throws `IllegalArgumentException` if chord is out of range");
         for (int bad : new int[] {0, -1, 256, LOW, HIGH}) {
             Check.argument(x, "chord " + bad, () -> x.chord(bad, 0));
             Check.argument(x, "chord first", () -> x.chord(bad, 9));
         }
+        Doc.quote(45, "Throws `IndexOutOfBoundsException` if there is no such register in the chord");
         Check.index(x, "register 3 of 0 to 2", () -> x.chord(7, 3));
         Check.index(x, "register first", () -> x.chord(16, 0));
         for (int bad : new int[] {-1, 8, 32, LOW, HIGH}) {
@@ -636,7 +734,7 @@ public final class QuestionsTest {
     }
 
     private static void beats() {
-        Check.begin(46);
+        Doc.quote(46, "Tells the beats of two tones, the lower one with a number of swings in a second, the upper one by the interval of a register above it: how far the m-th partial of the upper one is from the n-th one of the lower one (without sign), as a fraction without common divisors; its told numbers are 0 (over the line) and 1 (under it).", "Returns whether they do not beat.");
         Tuninghouse x = fifthIn0();
         Check.due("a pure fifth", x.beats(0, 440, 3, 2), true);
         Check.due("0 / 1", x.toldAt(0, 1) + " " + x.toldAt(1, 2), "0 1");
@@ -648,13 +746,14 @@ public final class QuestionsTest {
         Check.due("395 / 4", x.toldAt(0, 2) + " " + x.toldAt(1, 2), "395 4");
         Check.due("without divisors", x.beats(1, 10000, 2, 3), false);
         Check.due("17500 / 1", x.toldAt(0, 2) + " " + x.toldAt(1, 2), "17500 1");
-        put(x, 2, 40, 40, 40, 40, 40, 40);
+        Doc.quote(46, "Throws `ArithmeticException` if the root of the interval is above 1, or an exponent is above 40 in amount");
+        Make.put(x, 2, 40, 40, 40, 40, 40, 40);
         Check.due("the greatest", x.beats(2, 10000, 1, 100), false);
         Check.due("its digits", x.toldAt(0, 0) + " " + x.toldAt(1, 0), "186 1");
-        put(x, 2, -40, -40, -40, -40, -40, -40);
+        Make.put(x, 2, -40, -40, -40, -40, -40, -40);
         Check.due("the least", x.beats(2, 1, 1, 1), false);
         Check.due("its digits", x.toldAt(0, 0) + " " + x.toldAt(1, 0), "180 180");
-        put(x, 2, 0, 41);
+        Make.put(x, 2, 0, 41);
         Check.arithmetic(x, "41", () -> x.beats(2, 1, 1, 1));
         x.parts(2, 1, 2);
         Check.arithmetic(x, "a root", () -> x.beats(2, 1, 1, 1));
@@ -671,7 +770,7 @@ public final class QuestionsTest {
     }
 
     private static void string() {
-        Check.begin(47);
+        Doc.quote(47, "Returns how long a string must be to sound higher by the interval of a register.", "Returns the greatest whole number that is not above length divided by the number that the interval stands for; 1000000000 if it is greater than that.");
         Tuninghouse x = fifthIn0();
         Check.due("a fifth", x.string(0, 600), 400);
         Check.due("just below", x.string(0, 599), 399);
@@ -681,6 +780,11 @@ public final class QuestionsTest {
         Check.due("7 of 12", x.string(1, 1000000), 667419);
         x.parts(1, -1, 2);
         Check.due("longer", x.string(1, 1000000), 1414213);
+        int[][] halves = {{-25, 2, 1, 5792}, {-59, 2, 1, 759250124}, {-61, 2, 1, 1000000000}, {39, 2, 1000000, 1}, {41, 2, 1000000, 0}, {-1, 2, 2, 2}, {1, 2, 1, 0}, {-59, 3, 3, 2496765}, {-119, 4, 1, 902905650}};
+        for (int[] h : halves) {
+            x.parts(1, h[0], h[1]);
+            Check.due(h[0] + " of " + h[1], x.string(1, h[2]), h[3]);
+        }
         x.parts(1, 30, 1);
         Check.due("30 octaves", x.string(1, 1000000), 0);
         x.parts(1, -29, 1);
@@ -690,11 +794,11 @@ public final class QuestionsTest {
         Check.due("just the most", x.string(1, 1000), 1000000000);
         Check.due("one less", x.string(1, 999), 999000000);
         Check.due("above the most", x.string(1, 1001), 1000000000);
-        put(x, 2, 5000, 5000, 5000, 5000, 5000, 5000);
+        Make.put(x, 2, 5000, 5000, 5000, 5000, 5000, 5000);
         Check.due("next to nothing", x.string(2, 1000000), 0);
         x.times(2, -1, 1);
         Check.due("far above the most", x.string(2, 1), 1000000000);
-        put(x, 3, 351, -666, 710, -755, 358, -17);
+        Make.put(x, 3, 351, -666, 710, -755, 358, -17);
         Check.due("by a hair shorter", x.string(3, 1000000), 999999);
         x.times(3, -1, 24);
         Check.due("by a hair longer", x.string(3, 1000000), 1000000);
@@ -706,7 +810,7 @@ public final class QuestionsTest {
     }
 
     private static void rhythm() {
-        Check.begin(48);
+        Doc.quote(48, "Returns the rhythm of some beats in some places that is as even as can be: there is a beat at the place i if what i times beats leaves by places is less than beats.", "Returns the places with a beat, as bits.");
         Tuninghouse x = new Tuninghouse();
         Check.due("3 of 8", x.rhythm(8, 3), 1 | 8 | 64);
         Check.due("none", x.rhythm(30, 0), 0);
@@ -723,7 +827,7 @@ public final class QuestionsTest {
     }
 
     private static void unlike() {
-        Check.begin(49);
+        Doc.quote(49, "Counts the sets of some of equal parts of the octave that are unlike also when they are turned.", "Returns how many there are.");
         Tuninghouse x = new Tuninghouse();
         int[] due = {1, 1, 6, 19, 43, 66, 80, 66, 43, 19, 6, 1, 1};
         for (int k = 0; k <= 12; k++) {
@@ -741,7 +845,7 @@ public final class QuestionsTest {
     }
 
     private static void type() {
-        Check.begin(50);
+        Doc.quote(50, "Puts up to eight bytes behind the text: the bytes of a number, the highest first, without those that are 0.", "- `bytes`: the number", "Returns the length of the text.");
         Tuninghouse x = new Tuninghouse();
         Check.due("nothing", x.type(0), 0);
         Check.due("r0", x.type(0x7230), 2);
@@ -754,9 +858,38 @@ public final class QuestionsTest {
         for (int i = 1; i <= 15; i++) {
             Check.due("eight more", x.type(0x2020202020202020L), 8 * i);
         }
+        Doc.quote(50, "Throws `IllegalStateException` if it would have more than 120 bytes");
         Check.state(x, "one more", () -> x.type(1));
         Check.state(x, "the highest alone", () -> x.type(Long.MIN_VALUE));
         Check.due("none more", x.type(0), 120);
+        for (int place = 0; place < 8; place++) {
+            long one = 1L << 8 * place;
+            Check.state(x, "one more, as byte " + place, () -> x.type(one));
+        }
+        for (int room = 0; room < 8; room++) {
+            x.clearText();
+            for (int i = 0; i < 120 - room; i++) {
+                x.type(' ');
+            }
+            for (int zero = 0; zero < 8; zero++) {
+                long bytes = 0;
+                long more = 0;
+                int put = 0;
+                for (int place = 0; place < 8; place++) {
+                    long next = 0xffL << 8 * place;
+                    bytes |= place != zero && put < room ? next : 0;
+                    more |= place == zero || put < room ? next : 0;
+                    put += place != zero && put < room ? 1 : 0;
+                }
+                long over = more;
+                if (Long.bitCount(over) == 8 * (room + 1)) {
+                    Check.state(x, room + 1 + " bytes at " + (120 - room), () -> x.type(over));
+                }
+                if (zero == 7) {
+                    Check.due(room + " bytes at " + (120 - room), x.type(bytes), 120);
+                }
+            }
+        }
         x.clearText();
         for (int i = 0; i < 119; i++) {
             x.type(' ');
@@ -767,7 +900,7 @@ public final class QuestionsTest {
     }
 
     private static void clearText() {
-        Check.begin(51);
+        Doc.quote(51, "Empties the text.", "Returns its length before.");
         Tuninghouse x = new Tuninghouse();
         Check.due("empty", x.clearText(), 0);
         x.type(0x6f6374617665L);
@@ -778,7 +911,7 @@ public final class QuestionsTest {
     }
 
     private static void errorPlace() {
-        Check.begin(52);
+        Doc.quote(52, "Returns the place of the error of the text.", "Returns the index of a byte, or the length of the text; NONE without an error.");
         Tuninghouse x = new Tuninghouse();
         String[] right = {"octave", " fifth ", "- third", "comma/24", "r0", "r7-r0+r3", "3:2", "3 : 2", "100 fifth", "100fifth", "2 3:2/3", "000 r1", "999999:000001",
             "12 r3/2 - 5:4 / 4 + octave", "17:19", "0fifth", "101:2", "-r0"};
@@ -812,7 +945,7 @@ public final class QuestionsTest {
     }
 
     private static void evenness() {
-        Check.begin(53);
+        Doc.quote(53, "Returns the share of the gaps of a scale that are of its most frequent sort.", "Returns the number of these gaps as a float, divided by the number of gaps as a float.");
         Tuninghouse x = fifthIn0();
         Check.due("one", x.evenness(0), 1.0f);
         x.row(0, 0, -1, 7);
@@ -826,21 +959,21 @@ public final class QuestionsTest {
     }
 
     private static void meanImpurity() {
-        Check.begin(54);
+        Doc.quote(54, "Returns the mean of the impurities of all keys.", "Returns the sum of impurity(key, 3) over all keys, as a double, divided by 12000.0.");
         Tuninghouse x = werckmeister();
         Check.due("werckmeister", x.meanImpurity(), 164232.0 / 12000.0);
         Check.due("pure fifths", new Tuninghouse().meanImpurity(), 12 * 21506.0 / 12000.0);
     }
 
     private static void errors() {
-        Check.begin(55);
+        Doc.quote(55, "Looks for errors: 1 for each of these that does not hold", "Returns how many do not hold; always 0.");
         Tuninghouse x = fifthIn0();
         Check.due("new", x.errors(), 0);
         x.row(0, 0, -50, 40);
         x.parts(1, 7, 360);
         x.row(1, 1, 0, 40);
-        put(x, 2, 5000, -5000, 5000, -5000, 5000, -5000);
-        put(x, 3, 351, -666, 710, -755, 358, -17);
+        Make.put(x, 2, 5000, -5000, 5000, -5000, 5000, -5000);
+        Make.put(x, 3, 351, -666, 710, -755, 358, -17);
         x.parts(4, -1, 359);
         x.tone(2, 4, true);
         x.tone(2, 1, true);

@@ -667,7 +667,9 @@ public final class Tuninghouse {
 
     private void change(State next) {
         if (changes >= past.length) {
-            System.arraycopy(past, 1, past, 0, past.length - 1);
+            for (int i = 1; i < past.length; i++) {
+                past[i - 1] = past[i];
+            }
             changes = past.length - 1;
         }
         past[changes] = state;
@@ -894,8 +896,8 @@ public final class Tuninghouse {
 
     /** The greatest common divisor, 0 of two zeros; the steps are far fewer than the bound. */
     private static long divisorOf(long first, long second) {
-        long one = Math.abs(first);
-        long two = Math.abs(second);
+        long one = first < 0 ? -first : first;
+        long two = second < 0 ? -second : second;
         for (int i = 0; i < 200 && two != 0; i++) {
             long rest = one % two;
             one = two;
@@ -1033,6 +1035,7 @@ public final class Tuninghouse {
         private static final int LIMBS = 20;
         private static final int NEAR_BITS = 36;
         private static final long NEAR_SLACK_MOST = 1L << 24;
+        private static final long LONG_MOST = 9223372036854775807L;
         private static final long[] NEAR = {
             68719476736L, 108917793695L, 159561683699L, 192919961256L, 237730330636L, 254292281123L,
         };
@@ -1088,7 +1091,7 @@ public final class Tuninghouse {
             }
             if (isShort(given, slack)) {
                 long near = nearOf(given);
-                if (Math.abs(near) + slack <= Long.MAX_VALUE / many) {
+                if (Math.abs(near) + slack <= LONG_MOST / many) {
                     long low = Math.floorDiv((near - slack) * many, root << NEAR_BITS);
                     long high = Math.floorDiv((near + slack) * many, root << NEAR_BITS);
                     if (low == high) {
@@ -1529,7 +1532,9 @@ public final class Tuninghouse {
         /** A scale of the first tones of a row. */
         static Scale of(Interval[] row, int count) {
             Interval[] rising = new Interval[Math.max(0, Math.min(count, row.length))];
-            System.arraycopy(row, 0, rising, 0, rising.length);
+            for (int i = 0; i < rising.length; i++) {
+                rising[i] = row[i];
+            }
             return new Scale(rising);
         }
 
@@ -1547,7 +1552,9 @@ public final class Tuninghouse {
 
         Scale with(Interval added, Sizes sizes) {
             Interval[] more = new Interval[rising.length + 1];
-            System.arraycopy(rising, 0, more, 0, rising.length);
+            for (int i = 0; i < rising.length; i++) {
+                more[i] = rising[i];
+            }
             return of(more, sizes.insert(more, rising.length, added));
         }
 
@@ -1556,8 +1563,9 @@ public final class Tuninghouse {
                 return this;
             }
             Interval[] less = new Interval[rising.length - 1];
-            System.arraycopy(rising, 0, less, 0, step);
-            System.arraycopy(rising, step + 1, less, step, less.length - step);
+            for (int i = 0; i < less.length; i++) {
+                less[i] = rising[i < step ? i : i + 1];
+            }
             return new Scale(less);
         }
 
@@ -1626,12 +1634,11 @@ public final class Tuninghouse {
             int at = -1 - place;
             Interval[] more = new Interval[rising.length + 1];
             int[] moreNames = new int[rising.length + 1];
-            System.arraycopy(rising, 0, more, 0, at);
-            System.arraycopy(names, 0, moreNames, 0, at);
-            more[at] = interval;
-            moreNames[at] = name;
-            System.arraycopy(rising, at, more, at + 1, rising.length - at);
-            System.arraycopy(names, at, moreNames, at + 1, rising.length - at);
+            for (int i = 0; i < more.length; i++) {
+                int from = i < at ? i : i - 1;
+                more[i] = i == at ? interval : rising[from];
+                moreNames[i] = i == at ? name : names[from];
+            }
             return new Names(more, moreNames);
         }
     }
@@ -1707,7 +1714,9 @@ public final class Tuninghouse {
 
         State withMove(Interval then) {
             Interval[] longer = new Interval[tune.length + 1];
-            System.arraycopy(tune, 0, longer, 0, tune.length);
+            for (int i = 0; i < tune.length; i++) {
+                longer[i] = tune[i];
+            }
             longer[tune.length] = then;
             return new State(registers, scales, names, fifths, longer);
         }
