@@ -215,6 +215,15 @@ final class QuestionsTest {
         x.fraction(3, 99, 98);
         x.tell(3);
         Check.due("digits of 99 and 98", x.toldAt(0, 0) + " " + x.toldAt(1, 0), "2 2");
+        for (int greater = 40; greater > 0; greater -= 3) {
+            Make.put(x, 4, -greater, greater, -greater, greater, -greater, greater);
+            x.tell(4);
+            for (int t = 0; t < 2; t++) {
+                Check.due("digits of a great one", x.toldAt(t, 0) > greater && x.toldAt(t, 1) > 3 * greater, true);
+            }
+            Check.due("and then 99 / 98", x.tell(3), true);
+            Check.due("its digits", x.toldAt(0, 0) + " " + x.toldAt(0, 1) + " " + x.toldAt(0, 2) + " " + x.toldAt(1, 0) + " " + x.toldAt(1, 1) + " " + x.toldAt(1, 2), "2 7 99 2 7 98");
+        }
         x.fraction(3, 9, 8);
         x.tell(3);
         Check.due("digits of 9 and 8", x.toldAt(0, 0) + " " + x.toldAt(1, 0), "1 1");
@@ -444,6 +453,12 @@ final class QuestionsTest {
         x.parts(2, 3, 5);
         Check.due("3 of 5", x.nearest(2, 0, 5) + " " + x.nearest(2, 1, 5) + " " + x.nearest(2, 2, 5), "1 2 5");
         Check.due("the unison", x.nearest(3, 0, 1), 1);
+        for (int parts = 2; parts <= 360; parts++) {
+            x.parts(4, 1, parts);
+            Check.due("nothing is nearer than 1 of " + parts + ", but 0", x.nearest(4, 1, parts), parts);
+            int less = parts - 1;
+            Check.refused(x, "one less than " + parts, NoSuchElementException.class, () -> x.nearest(4, 1, less));
+        }
         Check.refused(x, "the unison", NoSuchElementException.class, () -> x.nearest(3, 1, 2000));
         Doc.quote(36, "Throws `IllegalArgumentException` if index is below 0, or most is out of range");
         for (int bad : new int[] {0, -1, 2001, LOW, HIGH}) {
@@ -466,6 +481,12 @@ final class QuestionsTest {
         x.parts(1, 7, 12);
         Check.due("7 of 12", x.term(1, 0) + " " + x.term(1, 1) + " " + x.term(1, 2) + " " + x.term(1, 3) + " " + x.term(1, 4), "0 1 1 2 2");
         Doc.quote(37, "Throws `NoSuchElementException` if the fraction has ended ahead of it");
+        x.parts(4, 7, 12);
+        x.fraction(3, 13, 11);
+        x.sum(4, 4, 3, false);
+        x.parts(5, 5, 12);
+        x.string(4, 599);
+        Check.due("the last one of 5 of 12, behind a string", x.term(5, 3), 2);
         Check.refused(x, "it has ended", NoSuchElementException.class, () -> x.term(1, 5));
         x.parts(1, 1000, 1);
         Check.due("1000 octaves", x.term(1, 0), 1000);
@@ -520,6 +541,20 @@ final class QuestionsTest {
         Check.due("less one and a half", x.best(1, 1), -1);
         Make.put(x, 2, 5000, 5000, 5000, 5000, 5000, 5000);
         Check.due("the greatest", x.best(10000, 2), 743705843);
+        // Powers of one prime whose parts are a half and a hair: just above it, just below it. Prime, power, parts, due.
+        int[][] halves = {{1, 596, 8725, 8241964}, {1, 761, 7334, 8845951}, {2, 1489, 5786, 20004233}, {2, 886, 5574, 11466990}, {3, 1521, 9306, 39736498},
+            {3, 818, 7099, 16302259}, {4, 395, 5875, 8028044}, {4, 1090, 9864, 37194978}, {5, 472, 9103, 15899369}, {5, 685, 5717, 14491458}};
+        for (int[] h : halves) {
+            int[] exponents = new int[6];
+            exponents[h[0]] = h[1];
+            Make.put(x, 2, exponents);
+            String what = h[2] + " parts of " + h[1] + " times " + Make.PRIMES[h[0]];
+            Check.due(what, x.best(h[2], 2), h[3]);
+            x.times(2, -1, 1);
+            Check.due(what + ", turned", x.best(h[2], 2), -h[3]);
+            int octaves = x.octavesOff(2);
+            Check.due(what + ", turned, octaves off", x.best(h[2], 2), -h[3] - octaves * h[2]);
+        }
         for (int bad : new int[] {0, -1, 10001, LOW, HIGH}) {
             Check.argument(x, "parts " + bad, () -> x.best(bad, 0));
             Check.argument(x, "parts first", () -> x.best(bad, 8));
@@ -538,6 +573,8 @@ final class QuestionsTest {
         Check.due("the comma in 1000", x.mapped(1000, 1), 4 * 1585 - 4000 - 2322);
         x.fraction(2, 1001, 60);
         Check.due("all primes in 12", x.mapped(12, 2), 34 + 42 + 44 - 24 - 19 - 28);
+        x.compare(2, 1);
+        Check.due("again, behind a question", x.mapped(12, 2), 34 + 42 + 44 - 24 - 19 - 28);
         Check.due("in 1", x.mapped(1, 2), 3 + 3 + 4 - 2 - 2 - 2);
         Doc.quote(39, "Throws `ArithmeticException` if the root of the interval is above 1");
         x.parts(3, 1, 2);
@@ -746,6 +783,16 @@ final class QuestionsTest {
         Check.due("395 / 4", x.toldAt(0, 2) + " " + x.toldAt(1, 2), "395 4");
         Check.due("without divisors", x.beats(1, 10000, 2, 3), false);
         Check.due("17500 / 1", x.toldAt(0, 2) + " " + x.toldAt(1, 2), "17500 1");
+        Make.put(x, 3, -40, 40, -40, 40, -40, 40);
+        for (int n = 1; n <= 100; n += 9) {
+            x.beats(3, 10000, n, 100);
+            Check.due("great ones", x.toldAt(0, 0) > 90 && x.toldAt(1, 0) > 75, true);
+            x.fraction(4, 1, 131072);
+            x.beats(4, 1, 1, 1);
+            Check.due("131071 / 131072", x.toldAt(0, 0) + " " + x.toldAt(0, 1) + " " + x.toldAt(0, 2) + " " + x.toldAt(1, 1) + " " + x.toldAt(1, 2), "6 17 131071 18 131072");
+            x.beats(1, 10000, 2, 3);
+            Check.due("again 17500 / 1", x.toldAt(0, 0) + " " + x.toldAt(0, 1) + " " + x.toldAt(0, 2) + " " + x.toldAt(1, 0) + " " + x.toldAt(1, 1), "5 15 17500 1 1");
+        }
         Doc.quote(46, "Throws `ArithmeticException` if the root of the interval is above 1, or an exponent is above 40 in amount");
         Make.put(x, 2, 40, 40, 40, 40, 40, 40);
         Check.due("the greatest", x.beats(2, 10000, 1, 100), false);
@@ -776,6 +823,13 @@ final class QuestionsTest {
         Check.due("just below", x.string(0, 599), 399);
         Check.due("1", x.string(0, 1), 0);
         Check.due("the unison", x.string(7, 1000000), 1000000);
+        // Ratio, length, due: just whole, and one more and one less.
+        int[][] whole = {{2, 1, 600, 300}, {2, 1, 601, 300}, {2, 1, 599, 299}, {2, 1, 1, 0}, {2, 1, 2, 1}, {1, 2, 599, 1198}, {5, 4, 1000000, 800000}, {5, 4, 999999, 799999},
+            {7, 1, 7, 1}, {7, 1, 6, 0}, {7, 1, 13, 1}, {1, 7, 999999, 6999993}, {11, 13, 11, 13}, {11, 13, 10, 11}, {11, 13, 12, 14}, {1000000, 1, 1000000, 1}, {1000000, 1, 999999, 0}};
+        for (int[] w : whole) {
+            x.fraction(1, w[0], w[1]);
+            Check.due(w[0] + " / " + w[1] + " of " + w[2], x.string(1, w[2]), w[3]);
+        }
         x.parts(1, 7, 12);
         Check.due("7 of 12", x.string(1, 1000000), 667419);
         x.parts(1, -1, 2);
@@ -942,6 +996,28 @@ final class QuestionsTest {
         x.clearText();
         Check.put(x, full.substring(0, 119) + "+");
         Check.due("forty terms and a sign", x.errorPlace(), 120);
+        everyByte(x);
+    }
+
+    /** Each byte behind a term, and ahead of one. */
+    private static void everyByte(Tuninghouse x) {
+        for (int b = 1; b < 256; b++) {
+            boolean isLetter = b >= 'a' && b <= 'z';
+            boolean isDigit = b >= '0' && b <= '9';
+            boolean goesOn = b == '+' || b == '-' || b == '/';
+            Check.put(x, "fifth" + (char) b);
+            Check.due("fifth and byte " + b, x.errorPlace(), b == ' ' ? -1 : isLetter ? 0 : goesOn ? 6 : 5);
+            Check.put(x, (char) b + "fifth");
+            Check.due("byte " + b + " and fifth", x.errorPlace(), b == ' ' || b == '-' || isDigit ? -1 : 0);
+            Check.put(x, "r" + (char) b);
+            Check.due("r and byte " + b, x.errorPlace(), b >= '0' && b <= '7' ? -1 : 0);
+            Check.put(x, "3" + (char) b + "2");
+            Check.due("3, byte " + b + ", 2", x.errorPlace(), b == ':' || b == 'r' ? -1 : isDigit ? 0 : b == ' ' ? 2 : 1);
+            Check.put(x, "r0" + (char) b + "r0");
+            Check.due("r0, byte " + b + ", r0", x.errorPlace(), b == '+' || b == '-' ? -1 : b == '/' || b == ' ' ? 3 : 2);
+            Check.put(x, "3:2/" + (char) b);
+            Check.due("3:2/ and byte " + b, x.errorPlace(), b == ' ' ? 5 : isDigit && b > '0' ? -1 : 4);
+        }
     }
 
     private static void evenness() {
@@ -981,5 +1057,13 @@ final class QuestionsTest {
         Check.due("full", x.errors(), 0);
         x.undo();
         Check.due("undone", x.errors(), 0);
+        for (int parts = 1; parts <= 360; parts++) {
+            Tuninghouse y = new Tuninghouse();
+            for (int r = 0; r < 8; r++) {
+                y.parts(r, r * r - 8, parts);
+            }
+            y.row(0, 3, 0, 40);
+            Check.due("parts of " + parts, y.errors(), 0);
+        }
     }
 }
