@@ -332,6 +332,18 @@ final class ChangesTest {
         Check.arithmetic(x, "5100 on the way", () -> x.read(0));
         Check.put(x, "50 r2 / 2");
         Check.due("2550 on the way", x.read(3), 1);
+        Check.put(x, "50 r2 + 50 r2 - 51 r2 + r2 / 7 - 100 r2");
+        Check.arithmetic(x, "5100 in the sum, and as a term", () -> x.read(0));
+        Check.put(x, "- 10 r2 + 100 r2");
+        Check.arithmetic(x, "5100 as a term, 4590 in the sum", () -> x.read(0));
+        x.parts(4, 1, 20);
+        x.parts(5, 1, 160);
+        Check.put(x, "r5 + r4 / 18");
+        Check.arithmetic(x, "root 1440 in the sum", () -> x.read(0));
+        Check.put(x, "r4 / 18");
+        Check.due("root 360 as a term", x.read(3), 360);
+        Check.put(x, "r5 + r4 / 24");
+        Check.arithmetic(x, "root 480 as a term, 120 in the sum", () -> x.read(0));
         Check.put(x, "98 r2 + 2 r2 - r2");
         Check.arithmetic(x, "the sum on the way", () -> x.read(0));
         Check.put(x, "98 r2 - r2 + 2 r2");
@@ -440,6 +452,7 @@ final class ChangesTest {
         Check.state(x, "the other one", () -> x.tone(1, 0, false));
         Check.due("what is not in", x.tone(1, 7, false), false);
         x.row(0, 0, 1, 40);
+        Check.due("out of 40 what is not in", x.tone(0, 7, false) + " " + x.tones(0), "false 40");
         Check.state(x, "the 41st", () -> x.tone(0, 7, true));
         x.fraction(1, 3, 1);
         x.times(1, 100, 1);

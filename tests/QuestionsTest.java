@@ -426,6 +426,15 @@ final class QuestionsTest {
         x.tone(3, 2, true);
         x.tone(3, 7, false);
         Check.due("one tone, not the unison", x.symmetry(3), 0);
+        int[][] odd = {{7, 5}, {11, 9}, {13, 7}, {15, 11}};
+        for (int[] o : odd) {
+            x.fraction(1, o[0], o[1]);
+            Make.onlyTone(x, 3, 1);
+            Check.due("one tone without the prime 2", x.symmetry(3), 0);
+        }
+        Make.octavesAnd(x, 1, 0, 1, 1);
+        Make.onlyTone(x, 3, 1);
+        Check.due("one tone, by a hair not the unison", x.symmetry(3), 0);
         Check.index(x, "scale", () -> x.symmetry(4));
         Check.index(x, "scale", () -> x.symmetry(LOW));
     }
@@ -962,6 +971,15 @@ final class QuestionsTest {
         Check.due("empty again", x.clearText(), 0);
         Check.due("too early", x.errorPlace(), 0);
         Check.due("as new", x.type(0x7230), 2);
+        // What stood behind the text before is gone: text before, text, error.
+        Object[][] shorter = {{"r0", "r", 0}, {"3:2", "3", 1}, {"3:2", "3:", 2}, {"fifth/2", "fifth/", 6}, {"fifth+r0", "fifth+", 6}, {"fifth+r0", "fifth", -1}, {"octave", "octav", 0},
+            {"fifths", "fifth", -1}, {"3 :2", "3 ", 2}, {"1000 fifth", "100", 3}, {"r00", "r0", -1}, {"fifth/24", "fifth/2", -1}, {"fifth/25", "fifth/2", -1}, {"   fifth", "   ", 3}, {"r0", "", 0}};
+        for (Object[] s : shorter) {
+            Check.put(x, (String) s[0]);
+            x.errorPlace();
+            Check.put(x, (String) s[1]);
+            Check.due("\"" + s[1] + "\" behind \"" + s[0] + "\"", x.errorPlace(), s[2]);
+        }
     }
 
     private static void errorPlace() {
@@ -997,6 +1015,18 @@ final class QuestionsTest {
         Check.put(x, full.substring(0, 119) + "+");
         Check.due("forty terms and a sign", x.errorPlace(), 120);
         everyByte(x);
+        fullTexts(x);
+    }
+
+    /** Texts of 120 bytes, by what they end with. */
+    private static void fullTexts(Tuninghouse x) {
+        Object[][] ends = {{"r", 119}, {"r0", -1}, {"r8", 118}, {"3", 120}, {"3:", 120}, {"3:2", -1}, {"fifth", -1}, {"fift", 116}, {"fifth/", 120}, {"fifth/2", -1}, {"fifth/25", 118},
+            {"101", 117}, {"1234567", 113}, {"+", 119}, {"-", 120}, {"fifth+", 120}, {"fifth 2", 119}, {"fifth ", -1}, {"", 120}, {":", 119}};
+        for (Object[] e : ends) {
+            String end = (String) e[0];
+            Check.put(x, " ".repeat(120 - end.length()) + end);
+            Check.due("120 bytes that end with \"" + end + "\"", x.errorPlace(), e[1]);
+        }
     }
 
     /** Each byte behind a term, and ahead of one. */
